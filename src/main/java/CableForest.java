@@ -337,7 +337,7 @@ public final class CableForest {
         if (k < 0 || k >= now.logged) {
             return NONE;
         }
-        return now.rows[k * LOG_WIDTH + what];
+        return now.rows[(now.eldest + k) % LOG_ROWS * LOG_WIDTH + what];
     }
 
     public int hinges() {
@@ -451,42 +451,31 @@ public final class CableForest {
     /** Uses the tape up and does its acts on `aside`: how many, or NONE of a wrong text. */
     private int tellAside() {
         aside.copyFrom(now);
-        refused = 0;
         tape.rewind();
+        refused = 0;
         int done = 0;
-        if (!tape.atEnd()) {
-            for (boolean more = true; more && tape.fault == NONE && done <= MOST_ACTS; ) {
-                int begin = tape.at;
-                if (done == MOST_ACTS) {
-                    tape.fault = begin;
-                } else if (tape.readAct()) {
-                    refused = performTold();
-                    if (refused != 0) {
-                        tape.fault = begin;
-                    } else {
-                        done++;
-                        more = tape.readNext();
+        boolean more = !tape.atEnd();
+        for (int act = 0; act <= MOST_ACTS && more; act++) {
+            int begin = tape.at;
+            if (act == MOST_ACTS) {
+                tape.fault = begin;
+            } else if (tape.readAct()) {
+                for (int i = 0; i < tape.times && refused == 0; i++) {
+                    refused = aside.refusal(tape.act, tape.numberOf(i, 0), tape.numberOf(i, 1));
+                    if (refused == 0) {
+                        aside.perform(tape.act, tape.numberOf(i, 0), tape.numberOf(i, 1));
                     }
                 }
+                // The act is done, or refused, ahead of what stands behind it in the text.
+                if (refused != 0) {
+                    tape.fault = begin;
+                }
+                done++;
             }
+            more = tape.fault == NONE && tape.readNext();
         }
         tape.length = 0;
         return tape.fault == NONE ? done : NONE;
-    }
-
-    private int performTold() {
-        int step = Math.max(1, tape.operands(tape.act));
-        int times = Math.max(1, tape.told / step);
-        for (int i = 0; i < times; i++) {
-            int x = tape.numberAt(i * step);
-            int y = tape.numberAt(i * step + 1);
-            int number = aside.refusal(tape.act, x, y);
-            if (number != 0) {
-                return number;
-            }
-            aside.perform(tape.act, x, y);
-        }
-        return 0;
     }
 
     private static boolean holds(int bits, int node) {
@@ -505,6 +494,7 @@ public final class CableForest {
         private int fault = NONE;
         private int act = NONE;
         private int told = 0;
+        private int times = 0;
 
         void addBytes(int number) {
             for (int shift = 24; shift >= 0 && length < TAPE_BYTES; shift -= 8) {
@@ -523,38 +513,30 @@ public final class CableForest {
             return at >= length;
         }
 
-        int operands(int kind) {
-            switch (kind) {
-                case ACT_TIDY:
-                    return 0;
-                case ACT_NET:
-                case ACT_LIFT:
-                case ACT_FAIL:
-                    return 1;
-                default:
-                    return 2;
-            }
-        }
-
-        int numberAt(int k) {
-            return k >= 0 && k < told ? numbers[k] : 0;
+        /** What the act just read tells for the i-th time: its numbers, 0 where it has fewer. */
+        int numberOf(int i, int operand) {
+            int each = operands();
+            int k = i * each + operand;
+            return operand < each && k >= 0 && k < told ? numbers[k] : 0;
         }
 
         /** Reads one act with all that it tells; false, and the fault is there, if it is wrong. */
         boolean readAct() {
             told = 0;
+            times = 0;
             act = readWord();
             if (act == NONE) {
                 return false;
             }
             boolean repeats = act == ACT_LAY || act == ACT_LIFT;
-            int each = operands(act);
+            int each = operands();
             for (int round = 0; round < MOST_NUMBERS; round++) {
                 for (int operand = 0; operand < each; operand++) {
                     if (!readNumber(operand)) {
                         return false;
                     }
                 }
+                times++;
                 if (!repeats || !takeSign(',')) {
                     return true;
                 }
@@ -655,6 +637,19 @@ public final class CableForest {
             return true;
         }
 
+        private int operands() {
+            switch (act) {
+                case ACT_TIDY:
+                    return 0;
+                case ACT_NET:
+                case ACT_LIFT:
+                case ACT_FAIL:
+                    return 1;
+                default:
+                    return 2;
+            }
+        }
+
         private int mostOf(int operand) {
             switch (act) {
                 case ACT_NET:
@@ -750,7 +745,7 @@ public final class CableForest {
             }
             long open = openAt(place);
             for (int i = place - 1; i >= 0 && row[i] != STOP; i--) {
-                if (row[i] >= BRACKET && (open >> row[i] - BRACKET & 1L) != 0) {
+                if (row[i] >= BRACKET && (open & 1L << row[i] - BRACKET) != 0L) {
                     return row[i] - BRACKET;
                 }
             }
@@ -783,6 +778,9 @@ public final class CableForest {
             int oneEnd = endOf(one);
             int twoBegin = beginOf(two);
             int twoEnd = endOf(two);
+            if (oneBegin == twoBegin) {
+                return;
+            }
             int to = 0;
             for (int i = 0; i < used && to < ROW; i++) {
                 if ((i < oneBegin || i > oneEnd) && (i < twoBegin || i > twoEnd)) {
@@ -905,6 +903,7 @@ public final class CableForest {
         private int risen = 0;
         private int looked = 0;
         private int logged = 0;
+        private int eldest = 0;
 
         Net() {
             for (int i = 0; i < MOST_LEVELS; i++) {
@@ -930,18 +929,22 @@ public final class CableForest {
             risen = other.risen;
             looked = other.looked;
             logged = other.logged;
+            eldest = other.eldest;
         }
 
         int start(int many) {
             nodes = many;
             height = 0;
-            for (int power = 2; power <= many; power *= 2) {
-                height++;
+            for (int level = 1; level < MOST_LEVELS; level++) {
+                if (1 << level <= many) {
+                    height = level;
+                }
             }
             laid = 0;
             risen = 0;
             looked = 0;
             logged = 0;
+            eldest = 0;
             for (int node = 0; node < MOST_NODES; node++) {
                 names[node] = node;
             }
@@ -1019,6 +1022,7 @@ public final class CableForest {
             for (int i = level; i >= 0; i--) {
                 int heir = searchOn(i, cable);
                 if (heir != NONE) {
+                    putInPlace(heir, i);
                     return heir;
                 }
             }
@@ -1181,9 +1185,11 @@ public final class CableForest {
             return changed;
         }
 
-        /** A search on one level: what came in place there, or NONE. */
+        /** A search on one level: what is to come in place there, or NONE. */
         private int searchOn(int level, int lifted) {
-            int small = smallerPart(level, lifted);
+            int one = forests[level].partOf(firsts[lifted]);
+            int two = forests[level].partOf(seconds[lifted]);
+            int small = Integer.bitCount(two) < Integer.bitCount(one) ? two : one;
             boolean mayRise = level < height;
             for (int cable = 0; cable < laid && mayRise; cable++) {
                 if (kinds[cable] == TREE && levels[cable] == level && holds(small, firsts[cable])) {
@@ -1202,7 +1208,6 @@ public final class CableForest {
                 }
                 looked++;
                 if (first != second) {
-                    putInPlace(cable);
                     return cable;
                 }
                 if (mayRise) {
@@ -1212,12 +1217,6 @@ public final class CableForest {
             return NONE;
         }
 
-        private int smallerPart(int level, int cable) {
-            int one = forests[level].partOf(firsts[cable]);
-            int two = forests[level].partOf(seconds[cable]);
-            return Integer.bitCount(two) < Integer.bitCount(one) ? two : one;
-        }
-
         private void raise(int cable) {
             levels[cable]++;
             rises[cable]++;
@@ -1225,12 +1224,12 @@ public final class CableForest {
             note(cable, ROSE, levels[cable]);
         }
 
-        private void putInPlace(int cable) {
+        private void putInPlace(int cable, int level) {
             kinds[cable] = TREE;
-            for (int i = levels[cable]; i >= 0; i--) {
+            for (int i = level; i >= 0; i--) {
                 forests[i].join(cable, firsts[cable], seconds[cable], room);
             }
-            note(cable, IN_PLACE, levels[cable]);
+            note(cable, IN_PLACE, level);
         }
 
         private void nameTheJoined(int one, int oneName, int two, int twoName) {
@@ -1264,16 +1263,17 @@ public final class CableForest {
             }
         }
 
+        // The rows go round, so that a new one takes the eldest one's place.
         private void note(int cable, int what, int level) {
-            if (logged >= LOG_ROWS) {
-                System.arraycopy(rows, LOG_WIDTH, rows, 0, (LOG_ROWS - 1) * LOG_WIDTH);
-                logged = LOG_ROWS - 1;
-            }
-            int at = logged * LOG_WIDTH;
+            int at = (eldest + logged) % LOG_ROWS * LOG_WIDTH;
             rows[at] = cable;
             rows[at + 1] = what;
             rows[at + 2] = level;
-            logged++;
+            if (logged < LOG_ROWS) {
+                logged++;
+            } else {
+                eldest = (eldest + 1) % LOG_ROWS;
+            }
         }
     }
 
@@ -1281,6 +1281,7 @@ public final class CableForest {
     private static final class Survey {
         private final int[] links = new int[MOST_NODES];
         private final int[] marks = new int[MOST_NODES];
+        private final int[] queue = new int[MOST_NODES];
         private final int[] flow = new int[MOST_NODES * MOST_NODES];
         private final int[] ends = new int[MOST_ODDS];
 
@@ -1562,15 +1563,15 @@ public final class CableForest {
         private boolean findRoom(int node, int other) {
             Arrays.fill(marks, NONE);
             marks[node] = node;
-            boolean grew = true;
-            for (int round = 0; round < MOST_NODES && grew; round++) {
-                grew = false;
-                for (int at = 0; at < MOST_NODES * MOST_NODES; at++) {
-                    int from = at / MOST_NODES;
-                    int to = at % MOST_NODES;
-                    if (flow[at] > 0 && marks[from] != NONE && marks[to] == NONE) {
+            queue[0] = node;
+            int waiting = 1;
+            for (int i = 0; i < waiting && marks[other] == NONE; i++) {
+                int from = queue[i];
+                for (int to = 0; to < MOST_NODES && waiting < MOST_NODES; to++) {
+                    if (marks[to] == NONE && flow[from * MOST_NODES + to] > 0) {
                         marks[to] = from;
-                        grew = true;
+                        queue[waiting] = to;
+                        waiting++;
                     }
                 }
             }
