@@ -392,7 +392,7 @@ public final class CableForest {
                 // A cable lies in no circle just if its lifting parts its ends.
                 return now.cablesOf(TREE) + now.cablesOf(SPARE) - survey.bridgesOf(now);
             case 12:
-                return now.doubles();
+                return now.likePairs();
             case 13:
                 return now.greatestLevel();
             case 14:
@@ -1079,7 +1079,7 @@ public final class CableForest {
             return found;
         }
 
-        int doubles() {
+        int likePairs() {
             int pairs = 0;
             for (int cable = 0; cable < laid; cable++) {
                 for (int other = 0; other < cable; other++) {
