@@ -170,6 +170,16 @@ public final class PromisesTest {
         is("still remembered", x.count(14), 1);
         is("a right text", acts(x, " "), 0);
         is("none remembered", x.count(14), 0);
+        is("the tape's last byte", acts(x, "tidy" + " ".repeat(396)), 1);
+        is("the tape's last byte", acts(x, " ".repeat(396) + "tidy"), 1);
+        is("the tape's last byte", acts(x, " ".repeat(393) + "lay 0 1"), 1);
+        is("many cables", acts(x, "net 2;lay 0 1" + ",0 1".repeat(59)), 2);
+        is("laid", x.count(2), 60);
+        is("a cable too many", acts(x, "net 2;lay 0 1" + ",0 1".repeat(60)), IAE);
+        is("fault", x.fault(), 6);
+        is("why", x.why(), 3);
+        is("many", acts(x, "lift 0" + ",1".repeat(197)), IAE);
+        is("why", x.why(), 4);
     }
 
     private static void fault(String text, int at) {
@@ -228,6 +238,16 @@ public final class PromisesTest {
         fault("cost 60 1", 5);
         fault("net 5;\tlay 0 1", 6);
         fault("net 5" + (char) 0, 5);
+        fault("layz 0 1", 0);
+        fault("zlay 0 1", 0);
+        // Texts that fill the tape, so that the reading ends just where the bytes do.
+        fault("net" + " ".repeat(397), 400);
+        fault("tidy;" + "a".repeat(395), 5);
+        fault("lift" + "9".repeat(396), 4);
+        fault("lift" + "9".repeat(395) + ",", 4);
+        fault("tidy" + " ".repeat(395) + ";", 400);
+        fault("lay " + "0 1,".repeat(99), 400);
+        fault("lift" + "0,".repeat(198), 400);
     }
 
     private static void refused(String text, int at, int why) {
@@ -639,6 +659,7 @@ public final class PromisesTest {
         is("near", x.near(1, 1), 0);
         is("near", x.near(1, 6), -1);
         is("near", of(() -> x.near(7, 0)), IOOB);
+        is("near", of(() -> x.near(0, 7)), IOOB);
         is("within", x.within(0, 0), 1);
         is("within", x.within(0, 1), 7);
         is("within", x.within(0, 2), 15);
@@ -710,6 +731,7 @@ public final class PromisesTest {
         is("not connected", x.way(0, 5, 0), -1);
         is("no node", of(() -> x.way(6, 0, 0)), IOOB);
         is("no node", of(() -> x.way(0, -1, -1)), IOOB);
+        is("no node", of(() -> x.way(0, 6, 0)), IOOB);
     }
 
     private static void heirs() {
@@ -754,6 +776,7 @@ public final class PromisesTest {
         is("two trees", x.meet(1, 3, 4), -1);
         is("no level", of(() -> x.meet(-1, 0, 0)), IOOB);
         is("no node", of(() -> x.meet(0, 0, 7)), IOOB);
+        is("no node", of(() -> x.meet(0, 7, 0)), IOOB);
     }
 
     private static void odds() {
@@ -762,6 +785,7 @@ public final class PromisesTest {
         is("odds", x.odds(0, 0), 8);
         is("odds", x.odds(0, 3), 0);
         is("no node", of(() -> x.odds(0, 4)), IOOB);
+        is("no node", of(() -> x.odds(-1, 0)), IOOB);
         acts(x, "lay 0 1,0 1,0 1,0 1,0 1,0 1,0 1,0 1,0 1");
         is("twelve", x.odds(0, 1), 4096 - 3);
         x.lay(2, 3);
@@ -779,6 +803,7 @@ public final class PromisesTest {
         is("fare", x.fare(2, 2), 0);
         is("fare", x.fare(2, 4), -1);
         is("no node", of(() -> x.fare(5, 0)), IOOB);
+        is("no node", of(() -> x.fare(0, 5)), IOOB);
         is("cheapest", x.count(16), 7);
         x.cost(0, 50);
         is("fare", x.fare(0, 2), 9);
@@ -830,6 +855,10 @@ public final class PromisesTest {
         is("cut", x.cut(0, 3), 2);
         is("cut", x.cut(0, 4), 0);
         is("one", x.cut(4, 4), 99);
+        // The shortest way takes 2-3; for two ways it must be given up again.
+        CableForest y = made("net 8;lay 0 2,2 3,3 1,2 4,4 5,5 1,0 6,6 7,7 3");
+        is("cut", y.cut(0, 1), 2);
+        is("cut", y.cut(1, 0), 2);
         is("no node", of(() -> x.cut(5, 5)), IOOB);
         is("no node", of(() -> x.cut(0, -1)), IOOB);
     }
