@@ -1,14 +1,5 @@
-import java.util.NoSuchElementException;
-import java.util.function.LongSupplier;
-
 /** For each promise of the document ordinary inputs, the edges that it names, and wrong inputs. */
-public final class PromisesTest {
-    private static final int IOOB = -101;
-    private static final int NSE = -102;
-    private static final int ISE = -103;
-    private static final int IAE = -104;
-    private static int wrong = 0;
-
+public final class PromisesTest extends Checks {
     public static void main(String[] args) {
         newObject();
         feedAndEnd();
@@ -41,65 +32,7 @@ public final class PromisesTest {
         cuts();
         image();
         counts();
-        if (wrong > 0) {
-            System.exit(1);
-        }
-        System.out.println("the promises hold");
-    }
-
-    private static void is(String what, long got, long want) {
-        if (got != want) {
-            wrong++;
-            System.out.println(what + " answered " + got + ", due is " + want);
-        }
-    }
-
-    private static void is(String what, boolean got, boolean want) {
-        is(what, got ? 1 : 0, want ? 1 : 0);
-    }
-
-    /** A call's answer, or the number above that stands for what it throws. */
-    private static long of(LongSupplier call) {
-        try {
-            return call.getAsLong();
-        } catch (IndexOutOfBoundsException e) {
-            return e.getClass() == IndexOutOfBoundsException.class ? IOOB : -999;
-        } catch (NoSuchElementException e) {
-            return NSE;
-        } catch (IllegalStateException e) {
-            return ISE;
-        } catch (IllegalArgumentException e) {
-            return IAE;
-        }
-    }
-
-    private static long acts(CableForest x, String text) {
-        Tapes.put(x, text);
-        return of(x::acts);
-    }
-
-    private static CableForest made(String text) {
-        CableForest x = new CableForest();
-        if (acts(x, text) < 0) {
-            wrong++;
-            System.out.println("the text is wrong at " + x.fault() + ": " + text);
-        }
-        return x;
-    }
-
-    private static String tour(CableForest x, int level, int node) {
-        StringBuilder t = new StringBuilder();
-        for (int k = 0; k < 60 && x.tour(level, node, k) != CableForest.NONE; k++) {
-            t.append(k > 0 ? " " : "").append(x.tour(level, node, k));
-        }
-        return t.toString();
-    }
-
-    private static void isTour(CableForest x, int level, int node, String want) {
-        if (!tour(x, level, node).equals(want)) {
-            wrong++;
-            System.out.println("tour of " + node + " on " + level + " is " + tour(x, level, node) + ", due is " + want);
-        }
+        finish("the promises hold");
     }
 
     private static void newObject() {
@@ -250,7 +183,7 @@ public final class PromisesTest {
         fault("lift" + "0,".repeat(198), 400);
     }
 
-    private static void refused(String text, int at, int why) {
+    private static void refusedText(String text, int at, int why) {
         CableForest x = new CableForest();
         Tapes.put(x, text);
         is("tries <" + text + ">", of(x::tries), IAE);
@@ -270,17 +203,17 @@ public final class PromisesTest {
     }
 
     private static void refusedTexts() {
-        refused("lay 0 4", 0, 1);
-        refused(" lay 1 2, 0 15", 1, 1);
-        refused("tidy; lay 3 3", 6, 2);
-        refused("lift 0", 0, 4);
-        refused("lay 0 1; lift 0,0", 9, 4);
-        refused("lay 0 1;cost 1 0", 8, 4);
-        refused("lay 0 1,0 1;swap 1 0", 12, 5);
-        refused("net 15 ;fail 15", 8, 1);
-        refused("lay 0 0;xyz", 0, 2);
+        refusedText("lay 0 4", 0, 1);
+        refusedText(" lay 1 2, 0 15", 1, 1);
+        refusedText("tidy; lay 3 3", 6, 2);
+        refusedText("lift 0", 0, 4);
+        refusedText("lay 0 1; lift 0,0", 9, 4);
+        refusedText("lay 0 1;cost 1 0", 8, 4);
+        refusedText("lay 0 1,0 1;swap 1 0", 12, 5);
+        refusedText("net 15 ;fail 15", 8, 1);
+        refusedText("lay 0 0;xyz", 0, 2);
         // The act is done ahead of what stands behind it.
-        refused("lay 0 0 2", 0, 2);
+        refusedText("lay 0 0 2", 0, 2);
     }
 
     private static void whyOfCalls() {
