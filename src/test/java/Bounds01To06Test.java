@@ -313,6 +313,18 @@ public final class Bounds01To06Test extends Checks {
         wrongText("tidy;swap 0 0", 5, 5);
     }
 
+    static void p04_aRefusedTextLeavesNothingForTheNext() {
+        CableForest x = new CableForest();
+        is("refused", acts(x, "lay 0 1;lift 1"), IAE);
+        is("right", acts(x, "lay 2 3"), 1);
+        is("end", x.cable(0, 0), 2);
+        is("refused", acts(x, "lift 0,0"), IAE);
+        is("one node", of(() -> x.lay(0, 0)), ISE);
+        is("wrong otherwise", acts(x, "lift 0;lift"), IAE);
+        is("why stays", x.why(), 2);
+        is("there", x.count(3), 1);
+    }
+
     static void p04_aRightTextUsesTheTapeUpAndForgets() {
         CableForest x = busyWith("lay 0 2");
         is("remembered", x.count(14), 4);
@@ -397,6 +409,8 @@ public final class Bounds01To06Test extends Checks {
         wrongText("Tidy", 0, 0);
         wrongText("tiDy", 0, 0);
         wrongText("z", 0, 0);
+        wrongText("layz 0 1", 0, 0);
+        wrongText("laya 0 1", 0, 0);
         wrongText("tidy;" + "a".repeat(395), 5, 0);
     }
 

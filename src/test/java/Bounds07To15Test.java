@@ -52,6 +52,19 @@ public final class Bounds07To15Test extends Checks {
         is("undo", of(x::undo), ISE);
     }
 
+    static void p07_nothingIsAnsweredByWhatWasAheadOfIt() {
+        leaves("net behind much else", () -> made("net 8"), x -> {
+            acts(x, path(8) + ",0 7,1 3,2 4;lift 3,1;cost 0 9;cost 7 5");
+            x.net(8);
+        });
+        leaves("undo behind much else", () -> made("net 8"), x -> {
+            x.lay(0, 1);
+            x.cost(0, 9);
+            x.undo();
+            x.undo();
+        });
+    }
+
     static void p07_aNewCable0HasNothingOfTheOldOne() {
         CableForest x = busy();
         is("rose", x.cable(0, 4), 2);
@@ -297,6 +310,17 @@ public final class Bounds07To15Test extends Checks {
         x = made("net 3;lay 0 1,1 2;lift 1");
         is("two keep it", x.node(1, 0), 0);
         is("one has the least free one", x.node(2, 0), 1);
+    }
+
+    static void p09_nameGoesByTheNodesOnLevel0() {
+        // {3, 4} rises whole and is the greater one on level 1, but not on level 0.
+        CableForest x = made("net 5;lay 0 1,1 2,2 3,3 4;lift 2");
+        is("on level 1", x.part(1, 3), 24);
+        is("three keep it", x.node(2, 0), 0);
+        is("two have the least free one", x.node(3, 0), 1);
+        x = made("net 5;lay 4 3,3 2,2 1,1 0;cost 0 2;lift 1");
+        is("three keep it", x.node(2, 0), 3);
+        is("two have the least free one", x.node(3, 0), 0);
     }
 
     static void p09_theLeastNumberThatNoTreeHas() {

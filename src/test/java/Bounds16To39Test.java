@@ -216,6 +216,13 @@ public final class Bounds16To39Test extends Checks {
         isTour(y, 0, 1, "0 159 1 259");
     }
 
+    static void p21_aTourThatBeginsWithABracket() {
+        CableForest x = made("net 4;lay 0 1,0 2,3 1;lift 0");
+        isTour(x, 0, 0, "101 2 201 0");
+        isTour(x, 0, 3, "3 102 1 202");
+        is("the opening one", x.tour(0, 2, 0), 101);
+    }
+
     // ---- 22: deep
 
     static void p22_levelsAndNodes() {
@@ -230,6 +237,9 @@ public final class Bounds16To39Test extends Checks {
         is("where it is turned to", x.deep(0, 14), 0);
         is("beside it", x.deep(0, 15), 1);
         is("the far end", x.deep(0, 0), 14);
+        CableForest y = made("net 4;lay 0 1,0 2,3 1;lift 0");
+        is("behind a bracket that begins the tour", y.deep(0, 2), 1);
+        is("behind its closing one", y.deep(0, 0), 0);
     }
 
     // ---- 23: way
@@ -297,6 +307,15 @@ public final class Bounds16To39Test extends Checks {
         is("the last of them", x.heir(0), 59);
     }
 
+    static void p25_oneBehindTheOther() {
+        CableForest x = made("lay 0 1,1 2");
+        x.lay(2, 0);
+        is("of 0", x.heir(0), 2);
+        is("of 1", x.heir(1), 2);
+        x.lift(2);
+        is("of 0", x.heir(0), -1);
+    }
+
     // ---- 26: would
 
     static void p26_cablesAndWhats() {
@@ -322,6 +341,16 @@ public final class Bounds16To39Test extends Checks {
         is("risen", x.would(2, 1), 2);
         is("looked so far", x.count(8), 0);
         is("risen so far", x.count(7), 0);
+    }
+
+    static void p26_oneBehindTheOther() {
+        CableForest x = made("lay 0 1,1 2");
+        x.lay(2, 0);
+        is("of 0", x.would(0, 0), 1);
+        is("of 1", x.would(1, 0), 1);
+        is("of 0 again", x.would(0, 0), 1);
+        x.lift(2);
+        is("of 0", x.would(0, 0), 0);
     }
 
     // ---- 27: bridge
@@ -355,10 +384,12 @@ public final class Bounds16To39Test extends Checks {
         is("where the tour is turned to", made(path(16)).kin(0, 14, 0), -1);
         is("beside it", made(path(16)).kin(0, 15, 0), 14);
         // Behind a split a tour may begin with a bracket.
-        CableForest x = made("net 5;lay 0 1,0 2,3 1;lift 0");
+        CableForest x = made("net 4;lay 0 1,0 2,3 1;lift 0");
         isTour(x, 0, 0, "101 2 201 0");
         is("in no brackets", x.kin(0, 0, 0), -1);
         is("in the first ones", x.kin(0, 2, 0), 0);
+        is("below it", x.kin(0, 2, 1), 4);
+        is("below the other", x.kin(0, 0, 1), 5);
     }
 
     static void p28_belowItselfAndAll() {
@@ -564,6 +595,8 @@ public final class Bounds16To39Test extends Checks {
         is("three nodes", made("net 3;lay 0 1,1 2").hinges(), 2);
         is("a circle of three", made("net 3;lay 0 1,1 2,2 0").hinges(), 0);
         is("a path of sixteen", made(path(16)).hinges(), 0x7FFE);
+        is("the first node", made("net 16;lay 15 0,0 7").hinges(), 1);
+        is("the last node", made("net 16;lay 0 15,15 7").hinges(), 0x8000);
         is("a circle of sixteen", made(path(16) + ",15 0").hinges(), 0);
         is("cables two by two", made("net 3;lay 0 1,0 1,1 2,1 2").hinges(), 2);
         is("a circle with one lifted", made("net 3;lay 0 1,1 2,2 0;lift 0").hinges(), 4);
@@ -585,6 +618,20 @@ public final class Bounds16To39Test extends Checks {
         is("fifty-nine", made(SIXTY + ";lift 30").cut(1, 0), 59);
         is("a path", made(path(16)).cut(0, 15), 1);
         is("a circle", made(path(16) + ",15 0").cut(0, 8), 2);
+    }
+
+    static void p36_oneBehindTheOther() {
+        CableForest x = made(SIXTY);
+        is("sixty", x.cut(0, 1), 60);
+        is("sixty again", x.cut(0, 1), 60);
+        is("the other way", x.cut(1, 0), 60);
+        x.net(4);
+        is("none", x.cut(0, 1), 0);
+    }
+
+    static void p36_aWayMustBeGivenUpAgain() {
+        // The shortest way takes 2-3; for two ways it must go.
+        is("cut", made("net 8;lay 0 2,2 3,3 1,2 4,4 5,5 1,0 6,6 7,7 3").cut(0, 1), 2);
     }
 
     // ---- 37: image
