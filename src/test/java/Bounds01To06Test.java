@@ -439,6 +439,8 @@ public final class Bounds01To06Test extends Checks {
         wrongText("cost 0 2,3 4", 8, 0);
         wrongText("fail 0,1", 6, 0);
         wrongText("lay 0 1:", 7, 0);
+        wrongText("lay 0 1/", 7, 0);
+        wrongText("fail 1/", 6, 0);
         wrongText("lay 0 /", 6, 0);
         wrongText("tidy`", 4, 0);
         wrongText("tidy{", 4, 0);

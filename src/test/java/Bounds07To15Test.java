@@ -52,6 +52,17 @@ public final class Bounds07To15Test extends Checks {
         is("undo", of(x::undo), ISE);
     }
 
+    static void p07_eachNameIsItsNumberAgain() {
+        // 0 and 15 bear the names 1 and 13 ahead of it.
+        CableForest x = made("net 16;lay 1 2,0 1,14 13,12 13,13 15");
+        is("name of 0", x.node(0, 0), 1);
+        is("name of 15", x.node(15, 0), 13);
+        x.net(16);
+        is("name of 0", x.node(0, 0), 0);
+        is("name of 15", x.node(15, 0), 15);
+        is("in a text", made("net 16;lay 1 2,0 1;net 3").node(0, 0), 0);
+    }
+
     static void p07_nothingIsAnsweredByWhatWasAheadOfIt() {
         leaves("net behind much else", () -> made("net 8"), x -> {
             acts(x, path(8) + ",0 7,1 3,2 4;lift 3,1;cost 0 9;cost 7 5");
@@ -349,6 +360,20 @@ public final class Bounds07To15Test extends Checks {
         isTour(x, 0, 0, "1 100 0 200");
         isTour(x, 0, 3, "2 102 3 202");
         is("trees", x.count(6), 2);
+    }
+
+    static void p09_otherTreesStayAsTheyAre() {
+        for (int cable = 0; cable < 3; cable++) {
+            CableForest x = made("net 7;lay 0 1,2 3,4 5");
+            x.lift(cable);
+            for (int node = 0; node < 6; node++) {
+                int first = node / 2 * 2;
+                isTour(x, 0, node, node / 2 == cable ? String.valueOf(node)
+                        : first + " " + (100 + node / 2) + " " + (first + 1) + " " + (200 + node / 2));
+            }
+            isTour(x, 0, 6, "6");
+            is("trees", x.count(6), 5);
+        }
     }
 
     // ---- 10: cost

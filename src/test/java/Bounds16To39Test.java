@@ -106,6 +106,11 @@ public final class Bounds16To39Test extends Checks {
         is("tree cables", x.node(0, 3), 1);
     }
 
+    static void p17_islandOfSixtyCables() {
+        is("island", made(SIXTY).node(0, 5), 3);
+        is("island of a node beside them", made(SIXTY.replace("net 2", "net 3")).node(2, 5), 4);
+    }
+
     static void p17_islandOfOneAndTwoCables() {
         is("by one cable", made("lay 0 1").node(0, 5), 1);
         is("by two", made("lay 0 1,0 1").node(0, 5), 3);
@@ -207,6 +212,19 @@ public final class Bounds16To39Test extends Checks {
         is("the only one", x.tour(4, 15, 0), 15);
         is("behind it", x.tour(4, 15, 1), -1);
         is("before it", x.tour(4, 15, -1), -1);
+    }
+
+    static void p21_nothingOfAnotherTour() {
+        CableForest x = made("net 6;lay 2 3,0 5");
+        int[] lengths = {4, 1, 4, 4, 1, 4};
+        for (int node = 0; node < 6; node++) {
+            for (int k = lengths[node]; k <= 20; k++) {
+                is("behind the last of " + node + ", k " + k, x.tour(0, node, k), -1);
+            }
+            is("before the first of " + node, x.tour(0, node, -1), -1);
+            is("alone on height", x.tour(2, node, 1), -1);
+            is("alone on height", x.tour(2, node, 2), -1);
+        }
     }
 
     static void p21_bracketsOfCable59() {
@@ -466,6 +484,8 @@ public final class Bounds16To39Test extends Checks {
         is("one cable", made("lay 0 1").odds(0, 1), 1);
         is("one cable elsewhere", made("lay 0 1").odds(2, 2), 2);
         is("twelve in a row", made(path(13)).odds(0, 12), 1);
+        is("twelve in a row, to 0", made(path(13)).odds(12, 0), 1);
+        is("three of four sets to 0", made("net 3;lay 2 0,0 2").odds(2, 0), 3);
     }
 
     // ---- 32: fare
@@ -574,6 +594,27 @@ public final class Bounds16To39Test extends Checks {
         is("one row", x.log(1, 0), -1);
     }
 
+    static void p34_fortyRowsOfOneTextAndAnImageOfThem() {
+        CableForest x = made(SIXTY);
+        x.image();
+        x.lift(0);
+        is("lifted", x.log(39, 1), 5);
+        for (int round = 0; round < 3; round++) {
+            if (round == 1) {
+                x.undo();
+            } else if (round == 2) {
+                x.back();
+            }
+            for (int k = 0; k < 40; k++) {
+                int[] due = round == 0 && k == 38 ? new int[] {0, 3} : round == 0 && k == 39 ? new int[] {1, 5}
+                        : new int[] {20 + k + (round == 0 ? 2 : 0), 1};
+                is("cable of row " + k, x.log(k, 0), due[0]);
+                is("what of row " + k, x.log(k, 1), due[1]);
+                is("level of row " + k, x.log(k, 2), 0);
+            }
+        }
+    }
+
     static void p34_eachKindOfRow() {
         CableForest x = made("net 5;lay 0 1,0 1,1 2,2 3,3 4,1 3;lift 2,0,1");
         int[][] rows = {{0, 0, 0}, {1, 1, 0}, {2, 0, 0}, {3, 0, 0}, {4, 0, 0}, {5, 1, 0}, {2, 3, 0}, {0, 4, 1},
@@ -627,6 +668,14 @@ public final class Bounds16To39Test extends Checks {
         is("the other way", x.cut(1, 0), 60);
         x.net(4);
         is("none", x.cut(0, 1), 0);
+    }
+
+    static void p36_notConnectedBehindOneThatIs() {
+        CableForest x = made("net 6;lay 3 4,4 5,0 1");
+        is("of three nodes", x.cut(3, 5), 1);
+        is("from three to one", x.cut(3, 2), 0);
+        is("from two to three", x.cut(0, 5), 0);
+        is("from one to three", x.cut(2, 4), 0);
     }
 
     static void p36_aWayMustBeGivenUpAgain() {
@@ -789,5 +838,7 @@ public final class Bounds16To39Test extends Checks {
         is("cheapest", x.count(16), 99);
         is("no cable", new CableForest().count(16), 0);
         is("two parts", made("lay 0 1,2 3;cost 0 99;cost 1 99").count(16), 198);
+        is("three parts of two", made("net 6;lay 4 5,2 3,0 1;cost 0 9;cost 1 8;cost 2 7").count(16), 24);
+        is("the first node alone", made("net 3;lay 1 2;cost 0 5").count(16), 5);
     }
 }

@@ -76,6 +76,11 @@ abstract class Checks {
             List<Class<?>> known = List.of(IndexOutOfBoundsException.class, NoSuchElementException.class,
                     IllegalStateException.class, IllegalArgumentException.class);
             int at = known.indexOf(e.getClass());
+            if (at < 0) {
+                // Never due, so it counts even where two answers are only held against each other.
+                wrong++;
+                System.out.println(running + "a call throws " + e);
+            }
             return at < 0 ? FOREIGN : IOOB - at;
         }
     }
