@@ -458,6 +458,16 @@ public final class Bounds01To06Test extends Checks {
         wrongText("tidy;".repeat(13) + "lay 0 0;tidy", 65, 2);
     }
 
+    static void p05_behindAWrongThingNothingIsRead() {
+        // What stands behind it would be refused, but it is never done: WHY tells nothing of it.
+        wrongText("lay 0 2 lift 3", 8, 0);
+        wrongText("lay 0 2lift 3", 7, 0);
+        wrongText("tidy lay 0 8", 5, 0);
+        wrongText("net 9 fail 12", 6, 0);
+        wrongText("xyz;lift 3", 0, 0);
+        wrongText("lay 0 16;lift 3", 6, 0);
+    }
+
     // ---- 6: why
 
     static void p06_is0AtFirstAndBehindEachActThatIsDone() {

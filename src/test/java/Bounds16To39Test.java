@@ -683,6 +683,16 @@ public final class Bounds16To39Test extends Checks {
         is("cut", made("net 8;lay 0 2,2 3,3 1,2 4,4 5,5 1,0 6,6 7,7 3").cut(0, 1), 2);
     }
 
+    static void p36_aCableGivenUpIsTakenAgain() {
+        // Both nodes have three cables; a cable between them is taken, given up, and taken the other way.
+        CableForest x = made("net 8;lay 1 5,5 1,2 0,7 5,7 5,4 3,7 3,0 1,3 2,4 0,3 1");
+        is("cut", x.cut(0, 7), 3);
+        is("cut from the other side", x.cut(7, 0), 3);
+        CableForest y = made("net 6;lay 0 3,3 2,4 0,1 4,4 0,1 3,1 4,1 0,1 5,5 1,2 5,2 5,3 2");
+        is("cut of four", y.cut(0, 5), 4);
+        is("cut of four from the other side", y.cut(5, 0), 4);
+    }
+
     // ---- 37: image
 
     static void p37_changesNothingButTheImage() {
